@@ -1,85 +1,7 @@
-import java.util.ArrayList;
 import java.util.List;
 
 /** Each promise by itself: ordinary inputs, the document's edges, wrong inputs and the order of refusals. */
-public final class PromisesTest {
-    private static final Class<? extends RuntimeException> UNKNOWN = IllegalArgumentException.class;
-    private static final Class<? extends RuntimeException> RANGE = IndexOutOfBoundsException.class;
-    private static final Class<? extends RuntimeException> STATE = IllegalStateException.class;
-    private static final Class<? extends RuntimeException> ROOM = UnsupportedOperationException.class;
-
-    private static final int LOW = Integer.MIN_VALUE;
-    private static final int HIGH = Integer.MAX_VALUE;
-
-    private static final int READY = 0;
-    private static final int AT_INCIDENT = 1;
-    private static final int RETURNING = 2;
-    private static final int CLEANING = 3;
-    private static final int REFILLING = 4;
-    private static final int CHECKED = 5;
-
-    private static int wrong = 0;
-
-    private static void due(String what, Object got, Object want) {
-        if (!got.equals(want)) {
-            wrong++;
-            System.out.println(what + " answered " + got + ", due is " + want);
-        }
-    }
-
-    private static void refused(String what, Class<? extends RuntimeException> want, Runnable call) {
-        try {
-            call.run();
-            due(what, "nothing thrown", want.getSimpleName());
-        } catch (RuntimeException e) {
-            due(what, e.getClass().getSimpleName(), want.getSimpleName());
-        }
-    }
-
-    /** All that an object shows, so that a refusal that changes something is seen. */
-    private static List<Integer> shown(ReleaseRows x, int units, int incidents) {
-        List<Integer> all = new ArrayList<>();
-        for (int unit = 0; unit < units; unit++) {
-            for (int what = 0; what <= 4; what++) {
-                all.add(x.unitAt(unit, what));
-            }
-        }
-        for (int incident = 0; incident < incidents; incident++) {
-            for (int what = 0; what <= 7; what++) {
-                all.add(x.incidentAt(incident, what));
-            }
-        }
-        for (int what = 0; what <= 15; what++) {
-            if (what <= 3 || what >= 10) {
-                all.add(x.count(what));
-            }
-        }
-        return all;
-    }
-
-    private static void tellRows(ReleaseRows x, int incident) {
-        x.report(incident, 0);
-        x.report(incident, 1);
-        x.report(incident, 2);
-    }
-
-    /** A unit goes to an incident and leaves it, so that the incident closes. */
-    private static void runToClose(ReleaseRows x, int unit, int incident) {
-        x.send(unit, incident);
-        tellRows(x, incident);
-        x.release(incident, 1);
-    }
-
-    /** Asks the second only once: an object is promised for 512 calls. */
-    private static void tickTo(ReleaseRows x, int second) {
-        int left = second - x.count(0);
-        while (left > 0) {
-            int step = Math.min(5_000, left);
-            x.tick(step);
-            left -= step;
-        }
-    }
-
+public final class PromisesTest extends Due {
     private static void newObject() {
         ReleaseRows x = new ReleaseRows();
         for (int what : new int[] {0, 1, 2, 3, 10, 11, 12, 13, 14, 15}) {
@@ -342,6 +264,33 @@ public final class PromisesTest {
         tellRows(x, 0);
         refused("7: closed", STATE, () -> x.release(0, 1));
         refused("7: range before state", RANGE, () -> x.release(0, 0));
+    }
+
+    private static void releaseAllOfTheSameDistance() {
+        ReleaseRows x = new ReleaseRows();
+        for (int unit = 0; unit < 24; unit++) {
+            x.unit(5, 0, 0, 0);
+        }
+        x.call(1, false);
+        for (int unit = 23; unit >= 0; unit--) {
+            x.send(unit, 0);
+        }
+        due("7: 24 are there", x.incidentAt(0, 1), 24);
+        for (int unit = 0; unit < 3; unit++) {
+            due("7: one of the same distance", x.release(0, 1), 1);
+            due("7: the lowest is released", x.unitAt(unit, 0), RETURNING);
+            due("7: the next stays", x.unitAt(unit + 1, 0), AT_INCIDENT);
+        }
+        for (int unit = 0; unit < 3; unit++) {
+            x.back(unit);
+            x.send(unit, 0);
+        }
+        due("7: 24 of 24", x.release(0, 24), 24);
+        due("7: none is there", x.incidentAt(0, 1), 0);
+        due("7: none of 24 to release", x.release(0, 24), 0);
+        for (int unit = 0; unit < 24; unit++) {
+            due("7: all return", x.unitAt(unit, 0), RETURNING);
+        }
     }
 
     private static void back() {
@@ -750,6 +699,27 @@ public final class PromisesTest {
         }
     }
 
+    private static void checksToDoOnlyWhileItIsChecked() {
+        ReleaseRows x = new ReleaseRows();
+        x.unit(0, 5, 5, 255);
+        x.call(1, false);
+        due("16: ready, no checks to do", x.unitAt(0, 3), 0);
+        x.send(0, 0);
+        due("16: at an incident, no checks to do", x.unitAt(0, 3), 0);
+        x.release(0, 1);
+        due("16: returning, no checks to do", x.unitAt(0, 3), 0);
+        x.back(0);
+        due("16: cleaning, no checks to do", x.unitAt(0, 3), 0);
+        x.tick(5);
+        due("16: refilling, no checks to do", x.unitAt(0, 3), 0);
+        x.tick(5);
+        due("16: checked, all to do", x.unitAt(0, 3), 255);
+        x.check(0, 254);
+        due("16: checked, one to do", x.unitAt(0, 3), 1);
+        x.check(0, 1);
+        due("16: ready again, no checks to do", x.unitAt(0, 3), 0);
+    }
+
     private static void incidentAt() {
         ReleaseRows x = new ReleaseRows();
         x.call(1, true);
@@ -852,6 +822,7 @@ public final class PromisesTest {
         reopenedIsBare();
         send();
         release();
+        releaseAllOfTheSameDistance();
         back();
         backInOneGo();
         use();
@@ -870,12 +841,10 @@ public final class PromisesTest {
         oneSecondInOrder();
         waitedForStaysOpen();
         unitAt();
+        checksToDoOnlyWhileItIsChecked();
         incidentAt();
         count();
         refusalsLeaveHiddenStateAlone();
-        if (wrong != 0) {
-            System.out.println(wrong + " answers are not as due");
-            System.exit(1);
-        }
+        end();
     }
 }
