@@ -7,7 +7,7 @@ import java.util.Set;
 import java.util.TreeSet;
 
 /** The class shows exactly the document's face, and keeps no static state. */
-public final class FaceTest {
+public final class FaceTest extends Due {
     private static final String[] FACE = {
         "int unit(int, int, int, int) throws IndexOutOfBoundsException, UnsupportedOperationException",
         "void home(int, int) throws IllegalArgumentException, IndexOutOfBoundsException",
@@ -29,15 +29,6 @@ public final class FaceTest {
         "int incidentAt(int, int) throws IllegalArgumentException",
         "int count(int) throws IllegalArgumentException",
     };
-
-    private static int wrong = 0;
-
-    private static void due(String what, Object got, Object want) {
-        if (!got.equals(want)) {
-            wrong++;
-            System.out.println(what + " is " + got + ", due is " + want);
-        }
-    }
 
     private static String names(Class<?>[] types) {
         StringBuilder text = new StringBuilder();
@@ -93,9 +84,6 @@ public final class FaceTest {
     public static void main(String[] args) {
         testMethods();
         testClassAndFields();
-        if (wrong != 0) {
-            System.out.println(wrong + " things are not as due");
-            System.exit(1);
-        }
+        end();
     }
 }
